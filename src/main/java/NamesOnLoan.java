@@ -20,7 +20,6 @@ public final class NamesOnLoan {
     private boolean hasImage;
     private final Tape tape;
     private final Law frostLaw;
-    private final Frost frost;
     private final Ways ways;
     private final Changes changes;
     private final Acts acts;
@@ -35,7 +34,6 @@ public final class NamesOnLoan {
         hasImage = false;
         tape = new Tape();
         frostLaw = new Law();
-        frost = new Frost(folk, deeds, frostLaw);
         ways = new Ways();
         changes = new Changes();
         acts = new Acts();
@@ -110,7 +108,7 @@ public final class NamesOnLoan {
             case 11:
                 return deeds.leftOf(number);
             case 12:
-                return frost.cracks(number, deeds.leftOf(number)) ? 1 : 0;
+                return cracks(number, deeds.leftOf(number)) ? 1 : 0;
             case 13:
                 return deeds.wornBy(number);
             default:
@@ -135,25 +133,25 @@ public final class NamesOnLoan {
     }
 
     public int burns(int name) {
-        return folk.has(name) ? frost.rateNow(name) : BAD;
+        return folk.has(name) ? rateNow(name) : BAD;
     }
 
     // ---- winters in thought
 
     public int left(int name, int n) {
-        return folk.has(name) && areDays(n) ? frost.leftAfter(name, n) : BAD;
+        return folk.has(name) && isTo99(n) ? leftAfter(name, n) : BAD;
     }
 
     public int winter(int n, int what) {
-        if (!areDays(n) || what < 0 || what > 2) {
+        if (!isTo99(n) || what < 0 || what > 2) {
             return BAD;
         }
         int sum = 0;
         for (int name = 0; name < folk.size(); name++) {
-            int rest = frost.leftAfter(name, n);
+            int rest = leftAfter(name, n);
             if (what == 2) {
                 sum += rest;
-            } else if (what == 1 ? rest == 0 : frost.cracks(name, rest)) {
+            } else if (what == 1 ? rest == 0 : cracks(name, rest)) {
                 sum++;
             }
         }
@@ -164,14 +162,14 @@ public final class NamesOnLoan {
         if (!folk.has(name) || what < 0 || what > 1) {
             return BAD;
         }
-        return frost.firstDay(name, what == 1);
+        return firstDay(name, what == 1);
     }
 
     public int last() {
         int first = NOT;
         int firstDay = MOST_DAYS + 1;
         for (int name = 0; name < folk.size(); name++) {
-            int day = frost.firstDay(name, true);
+            int day = firstDay(name, true);
             if (day != NOT && day < firstDay) {
                 first = name;
                 firstDay = day;
@@ -181,7 +179,7 @@ public final class NamesOnLoan {
     }
 
     public int give(int name, int n, int what) {
-        if (!folk.has(name) || !areDays(n) || what < 0 || what > 1) {
+        if (!folk.has(name) || !isTo99(n) || what < 0 || what > 1) {
             return BAD;
         }
         int best = NOT;
@@ -192,7 +190,7 @@ public final class NamesOnLoan {
                 continue;
             }
             int worn = deeds.wornBy(one) + (wears ? 0 : 1);
-            int rate = frost.rate(name, one, worn, folk.cold());
+            int rate = rate(name, one, worn, folk.cold());
             int rest = deeds.leftBy(name, rate, n);
             if (rest > most) {
                 best = one;
@@ -203,13 +201,13 @@ public final class NamesOnLoan {
     }
 
     public int allLast(int n, int what) {
-        if (!areDays(n) || what < -2 || what >= folk.size()) {
+        if (!isTo99(n) || what < -2 || what >= folk.size()) {
             return BAD;
         }
         if (folk.size() > MOST_TRIED) {
             return STATE;
         }
-        ways.begin(folk, frost);
+        beginWays();
         int best = Ways.WORST;
         for (int k = 0; k < ways.total(); k++) {
             int cost = ways.fits() ? costOfWay(n) : Ways.WORST;
@@ -235,20 +233,20 @@ public final class NamesOnLoan {
         for (int name = 0; name < folk.size(); name++) {
             int rest = deeds.leftBy(name, ways.rateOf(name), n);
             burnt += rest == 0 ? 1 : 0;
-            cracked += frost.cracks(name, rest) ? 1 : 0;
+            cracked += cracks(name, rest) ? 1 : 0;
             sum += rest;
         }
         return Ways.cost(burnt, cracked, sum);
     }
 
     public int fewest(int n) {
-        if (!areDays(n)) {
+        if (!isTo99(n)) {
             return BAD;
         }
         if (folk.size() > MOST_TRIED) {
             return STATE;
         }
-        ways.begin(folk, frost);
+        beginWays();
         int least = MOST_PEOPLE + 1;
         for (int k = 0; k < ways.total(); k++) {
             if (ways.wearers() < least && ways.fits() && noneIsBurnt(n)) {
@@ -325,7 +323,7 @@ public final class NamesOnLoan {
     }
 
     public int letter(int name, int k, int what) {
-        if (!folk.has(name) || !areDays(k) || what < 0 || what > 1) {
+        if (!folk.has(name) || !isTo99(k) || what < 0 || what > 1) {
             return BAD;
         }
         int who = deeds.wearerOf(name);
@@ -379,7 +377,7 @@ public final class NamesOnLoan {
     }
 
     public int doors(int n) {
-        if (!areDays(n)) {
+        if (!isTo99(n)) {
             return BAD;
         }
         int best = NOT;
@@ -398,12 +396,14 @@ public final class NamesOnLoan {
 
     /** An exchange leaves every count of names worn as it is, so only the two names fare otherwise. */
     private int gainOfExchange(int a, int b, int n) {
-        int before = frost.leftAfter(a, n) + frost.leftAfter(b, n);
-        return leftWith(a, deeds.wearerOf(b), n) + leftWith(b, deeds.wearerOf(a), n) - before;
+        int wearerOfA = deeds.wearerOf(a);
+        int wearerOfB = deeds.wearerOf(b);
+        int before = leftWith(a, wearerOfA, n) + leftWith(b, wearerOfB, n);
+        return leftWith(a, wearerOfB, n) + leftWith(b, wearerOfA, n) - before;
     }
 
     private int leftWith(int name, int wearer, int n) {
-        int rate = frost.rate(name, wearer, deeds.wornBy(wearer), folk.cold());
+        int rate = rate(name, wearer, deeds.wornBy(wearer), folk.cold());
         return deeds.leftBy(name, rate, n);
     }
 
@@ -443,7 +443,7 @@ public final class NamesOnLoan {
 
     private int waysThatMakeSo(Shelf signed) {
         int found = 0;
-        ways.begin(folk, frost);
+        beginWays();
         for (int k = 0; k < ways.total(); k++) {
             if (ways.fits() && areAllSo(signed)) {
                 if (found == 0) {
@@ -472,14 +472,14 @@ public final class NamesOnLoan {
         }
         int day = signed.number(place);
         int name = signed.number(place + 1);
-        if (!areDays(day) || !folk.has(name)) {
+        if (!isTo99(day) || !folk.has(name)) {
             return false;
         }
         int wearer = tried ? ways.wearerOf(name) : deeds.wearerOf(name);
         if (signed.number(place + 2) != wearer) {
             return false;
         }
-        int rate = tried ? ways.rateOf(name) : frost.rateNow(name);
+        int rate = tried ? ways.rateOf(name) : rateNow(name);
         return deeds.leftBy(name, rate, day) > 0;
     }
 
@@ -512,7 +512,7 @@ public final class NamesOnLoan {
             int wearer = deeds.wearerOf(name);
             int worn = deeds.wornBy(wearer);
             for (int cold = 0; cold < COLDS; cold++) {
-                ratesByCold[name * COLDS + cold] = frost.rate(name, wearer, worn, cold);
+                ratesByCold[name * COLDS + cold] = rate(name, wearer, worn, cold);
             }
         }
     }
@@ -552,7 +552,7 @@ public final class NamesOnLoan {
         }
         int sum = 0;
         for (int name = 0; name < folk.size(); name++) {
-            int rest = frost.leftAfter(name, n);
+            int rest = leftAfter(name, n);
             deeds.setLeft(name, rest);
             sum += rest;
         }
@@ -575,10 +575,18 @@ public final class NamesOnLoan {
             case 2:
                 return deeds.homecomings();
             case 3:
-                return winter(0, 1);
+                return burntNow();
             default:
                 return BAD;
         }
+    }
+
+    private int burntNow() {
+        int sum = 0;
+        for (int name = 0; name < folk.size(); name++) {
+            sum += deeds.leftOf(name) == 0 ? 1 : 0;
+        }
+        return sum;
     }
 
     public int image() {
@@ -710,8 +718,8 @@ public final class NamesOnLoan {
 
     // ---- what several calls ask
 
-    private static boolean areDays(int n) {
-        return n >= 0 && n <= MOST_DAYS;
+    private static boolean isTo99(int n) {
+        return n >= 0 && n <= 99;
     }
 
     private static boolean isShelf(int shelf) {
@@ -720,6 +728,52 @@ public final class NamesOnLoan {
 
     private boolean mayWearMore(int one) {
         return deeds.wornBy(one) < folk.told(one, COATS);
+    }
+
+    private int rate(int name, int wearer, int worn, int cold) {
+        boolean staysIn = folk.told(wearer, HOUSE) == 1;
+        int out = staysIn ? 0 : folk.told(wearer, OUT);
+        int fire = staysIn ? folk.told(0, FIRE) : 0;
+        int given = wearer == name ? 0 : 1;
+        return frostLaw.burnt(folk.told(name, SYLLABLES), out, worn, cold, fire, given);
+    }
+
+    private int rateNow(int name) {
+        int wearer = deeds.wearerOf(name);
+        return rate(name, wearer, deeds.wornBy(wearer), folk.cold());
+    }
+
+    /** While wearers stay, all days are alike: one day's rate tells them all. */
+    private int leftAfter(int name, int days) {
+        return deeds.leftBy(name, rateNow(name), days);
+    }
+
+    private boolean cracks(int name, int rest) {
+        return rest < 10 * folk.told(name, SYLLABLES);
+    }
+
+    private int firstDay(int name, boolean burnt) {
+        int rate = rateNow(name);
+        for (int day = 0; day <= MOST_DAYS; day++) {
+            int rest = deeds.leftBy(name, rate, day);
+            if (burnt ? rest == 0 : cracks(name, rest)) {
+                return day;
+            }
+        }
+        return NOT;
+    }
+
+    /** Rates are told ahead for every wearer and count, since thousands of ways ask for them. */
+    private void beginWays() {
+        ways.begin(folk.size());
+        for (int one = 0; one < folk.size(); one++) {
+            ways.setCoats(one, folk.told(one, COATS));
+            for (int name = 0; name < folk.size(); name++) {
+                for (int many = 1; many <= folk.size(); many++) {
+                    ways.setRate(name, one, many, rate(name, one, many, folk.cold()));
+                }
+            }
+        }
     }
 
     /** 0, if a shelf holds a row of bytes. */
@@ -947,51 +1001,6 @@ public final class NamesOnLoan {
         }
     }
 
-    /** What frost does to names: days are alike while wearers stay, so one day's rate tells all. */
-    private static final class Frost {
-        private final Folk folk;
-        private final Deeds deeds;
-        private final Law law;
-
-        Frost(Folk folk, Deeds deeds, Law law) {
-            this.folk = folk;
-            this.deeds = deeds;
-            this.law = law;
-        }
-
-        int rate(int name, int wearer, int worn, int cold) {
-            boolean staysIn = folk.told(wearer, HOUSE) == 1;
-            int out = staysIn ? 0 : folk.told(wearer, OUT);
-            int fire = staysIn ? folk.told(0, FIRE) : 0;
-            int given = wearer == name ? 0 : 1;
-            return law.burnt(folk.told(name, SYLLABLES), out, worn, cold, fire, given);
-        }
-
-        int rateNow(int name) {
-            int wearer = deeds.wearerOf(name);
-            return rate(name, wearer, deeds.wornBy(wearer), folk.cold());
-        }
-
-        int leftAfter(int name, int days) {
-            return deeds.leftBy(name, rateNow(name), days);
-        }
-
-        boolean cracks(int name, int rest) {
-            return rest < 10 * folk.told(name, SYLLABLES);
-        }
-
-        int firstDay(int name, boolean burnt) {
-            int rate = rateNow(name);
-            for (int day = 0; day <= MOST_DAYS; day++) {
-                int rest = deeds.leftBy(name, rate, day);
-                if (burnt ? rest == 0 : cracks(name, rest)) {
-                    return day;
-                }
-            }
-            return NOT;
-        }
-    }
-
     /** All ways to wear all names, one behind the other, the first name's wearer changing last. */
     private static final class Ways {
         static final int WORST = Integer.MAX_VALUE;
@@ -1015,24 +1024,27 @@ public final class NamesOnLoan {
             size = 0;
         }
 
-        void begin(Folk folk, Frost frost) {
-            size = Math.min(folk.size(), MOST_TRIED);
+        void begin(int people) {
+            size = Math.max(0, Math.min(people, MOST_TRIED));
             for (int i = 0; i < size; i++) {
                 way[i] = 0;
                 worn[i] = i == 0 ? size : 0;
-                coats[i] = folk.told(i, COATS);
-                first[i] = 0;
-            }
-            for (int name = 0; name < size; name++) {
-                for (int one = 0; one < size; one++) {
-                    fillRates(frost, folk.cold(), name, one);
-                }
             }
         }
 
-        private void fillRates(Frost frost, int cold, int name, int one) {
-            for (int many = 1; many <= size; many++) {
-                rates[rateAt(name, one, many)] = frost.rate(name, one, many, cold);
+        private boolean has(int one) {
+            return one >= 0 && one < size;
+        }
+
+        void setCoats(int one, int many) {
+            if (has(one)) {
+                coats[one] = many;
+            }
+        }
+
+        void setRate(int name, int one, int many, int rate) {
+            if (has(name) && has(one) && has(many - 1)) {
+                rates[rateAt(name, one, many)] = rate;
             }
         }
 
@@ -1079,14 +1091,11 @@ public final class NamesOnLoan {
         }
 
         int wearerOf(int name) {
-            return name >= 0 && name < size ? way[name] : 0;
+            return has(name) ? way[name] : 0;
         }
 
         int rateOf(int name) {
-            if (name < 0 || name >= size) {
-                return 0;
-            }
-            return rates[rateAt(name, way[name], worn[way[name]])];
+            return has(name) ? rates[rateAt(name, way[name], worn[way[name]])] : 0;
         }
 
         void markFirst() {
@@ -1094,7 +1103,7 @@ public final class NamesOnLoan {
         }
 
         int firstWearer(int name) {
-            return name >= 0 && name < size ? first[name] : 0;
+            return has(name) ? first[name] : 0;
         }
 
         /** One number that is less for the better way: fewer burnt, then fewer cracked, then more left. */
@@ -1118,6 +1127,7 @@ public final class NamesOnLoan {
         private static final int MOST_OPEN = 6;
         private static final int MOST_DIGITS = 4;
         private static final int END = -1;
+        private static final int LEVELS = 5, LEVEL_OF_TESTS = 2;
 
         private final int[] bytes;
         private int length;
@@ -1179,7 +1189,7 @@ public final class NamesOnLoan {
         }
 
         private boolean readLine() {
-            if (!readEither(0)) {
+            if (!readLevel(0, 0)) {
                 return false;
             }
             if (next() != '?') {
@@ -1187,64 +1197,49 @@ public final class NamesOnLoan {
                 return true;
             }
             place++;
-            if (!readEither(0)) {
+            if (!readLevel(0, 0)) {
                 return false;
             }
             write(Law.CHOICE_ENDS);
             return true;
         }
 
-        private boolean readEither(int open) {
-            boolean good = readBoth(open);
-            for (int k = 0; k < MOST && good && next() == '|'; k++) {
-                place++;
-                good = readBoth(open);
-                write('|');
+        /** E, A, B, S and P of the document are levels 0 to 4: each joins parts of the next. */
+        private boolean readLevel(int level, int open) {
+            if (level >= LEVELS) {
+                return readOne(open);
             }
-            return good;
-        }
-
-        private boolean readBoth(int open) {
-            boolean good = readTest(open);
-            for (int k = 0; k < MOST && good && next() == '&'; k++) {
-                place++;
-                good = readTest(open);
-                write('&');
-            }
-            return good;
-        }
-
-        private boolean readTest(int open) {
-            boolean good = readSum(open);
-            int sign = next();
-            if (good && (sign == '<' || sign == '=' || sign == '>')) {
-                place++;
-                good = readSum(open);
-                write(sign);
-            }
-            return good;
-        }
-
-        private boolean readSum(int open) {
-            boolean good = readProduct(open);
-            for (int k = 0; k < MOST && good && (next() == '+' || next() == '-'); k++) {
+            boolean good = readLevel(level + 1, open);
+            int most = level == LEVEL_OF_TESTS ? 1 : MOST;
+            for (int k = 0; k < most && good && levelOf(next()) == level; k++) {
                 int sign = next();
                 place++;
-                good = readProduct(open);
+                good = readLevel(level + 1, open);
                 write(sign);
             }
             return good;
         }
 
-        private boolean readProduct(int open) {
-            boolean good = readOne(open);
-            for (int k = 0; k < MOST && good && (next() == '*' || next() == '/' || next() == '%'); k++) {
-                int sign = next();
-                place++;
-                good = readOne(open);
-                write(sign);
+        private static int levelOf(int sign) {
+            switch (sign) {
+                case '|':
+                    return 0;
+                case '&':
+                    return 1;
+                case '<':
+                case '=':
+                case '>':
+                    return LEVEL_OF_TESTS;
+                case '+':
+                case '-':
+                    return 3;
+                case '*':
+                case '/':
+                case '%':
+                    return 4;
+                default:
+                    return LEVELS;
             }
-            return good;
         }
 
         private boolean readOne(int open) {
@@ -1267,7 +1262,7 @@ public final class NamesOnLoan {
         }
 
         private boolean readInside(int open) {
-            if (!readEither(open) || next() != ')') {
+            if (!readLevel(0, open) || next() != ')') {
                 return false;
             }
             place++;
@@ -1278,7 +1273,7 @@ public final class NamesOnLoan {
             if (!readOne(open)) {
                 return false;
             }
-            write(sign == '!' ? '!' : Law.LESS_THAN_NOTHING);
+            write(sign == '!' ? Law.NOT_SO : Law.LESS_THAN_NOTHING);
             return true;
         }
 
@@ -1301,14 +1296,13 @@ public final class NamesOnLoan {
         static final int MOST_STEPS = 128;
         static final int VALUES = 6;
         static final int NUMBERS = 256;
-        static final int LINE_ENDS = ';', CHOICE_ENDS = '?', LESS_THAN_NOTHING = '~';
+        static final int LINE_ENDS = ';', CHOICE_ENDS = '?', NOT_SO = '!', LESS_THAN_NOTHING = '~';
         private static final int MOST_BURNT = 99;
 
         private final int[] steps;
         private final int[] pile;
         private final int[] values;
         private int size;
-        private int height;
 
         Law() {
             steps = new int[MOST_STEPS];
@@ -1359,39 +1353,48 @@ public final class NamesOnLoan {
         }
 
         private int workOut() {
-            height = 0;
+            int height = 0;
             for (int k = 0; k < size; k++) {
                 int step = steps[k];
-                if (step == LINE_ENDS) {
-                    return lift();
+                if (height < needed(step) || height >= MOST_STEPS) {
+                    return 0;
                 }
-                if (step == CHOICE_ENDS) {
-                    int then = lift();
-                    if (lift() != 0) {
-                        return then;
-                    }
+                if (isLaid(step)) {
+                    pile[height] = step >= NUMBERS ? step - NUMBERS : values[step];
+                    height++;
+                } else if (step == LINE_ENDS) {
+                    return pile[height - 1];
+                } else if (step == NOT_SO || step == LESS_THAN_NOTHING) {
+                    pile[height - 1] = turned(step, pile[height - 1]);
+                } else if (step != CHOICE_ENDS) {
+                    height--;
+                    pile[height - 1] = joined(step, pile[height - 1], pile[height]);
+                } else if (pile[height - 2] != 0) {
+                    return pile[height - 1];
                 } else {
-                    lay(valueOf(step));
+                    height -= 2;
                 }
             }
             return 0;
         }
 
-        private int valueOf(int step) {
-            if (step >= NUMBERS) {
-                return step - NUMBERS;
+        /** How many values a step takes from the pile. */
+        private static int needed(int step) {
+            if (isLaid(step)) {
+                return 0;
             }
-            if (step >= 0 && step < VALUES) {
-                return values[step];
+            return step == LINE_ENDS || step == NOT_SO || step == LESS_THAN_NOTHING ? 1 : 2;
+        }
+
+        private static boolean isLaid(int step) {
+            return step >= NUMBERS || step >= 0 && step < VALUES;
+        }
+
+        private static int turned(int sign, int a) {
+            if (sign == NOT_SO) {
+                return a == 0 ? 1 : 0;
             }
-            int right = lift();
-            if (step == '!') {
-                return right == 0 ? 1 : 0;
-            }
-            if (step == LESS_THAN_NOTHING) {
-                return -right;
-            }
-            return joined(step, lift(), right);
+            return -a;
         }
 
         private static int joined(int sign, int a, int b) {
@@ -1419,21 +1422,6 @@ public final class NamesOnLoan {
                 default:
                     return 0;
             }
-        }
-
-        private void lay(int v) {
-            if (height < MOST_STEPS) {
-                pile[height] = v;
-                height++;
-            }
-        }
-
-        private int lift() {
-            if (height <= 0) {
-                return 0;
-            }
-            height--;
-            return pile[height];
         }
     }
 
@@ -1505,7 +1493,7 @@ public final class NamesOnLoan {
     /** The bodies that are kept, and their acts. */
     private static final class Acts {
         private static final int KINDS = 8, ACTS = 4, MOST = 50, MOST_TRACED = 24, DEEPEST = 20;
-        private static final int WEARS = 0, FREEZES = 1, CALLS = 2, TELLS = 3;
+        private static final int WEARS = 0, FREEZES = 1, CALLS = 2;
         private static final int[] ABOVE = {-1, 0, 0, 2, 1, 3, 0, 4};
         // by kind the bodies of wears, freezes, calls, tells; 0: it comes from above
         private static final int[] BODIES = {
@@ -1661,7 +1649,8 @@ public final class NamesOnLoan {
     private static final class Shelf {
         static final int MOST = 60;
         private static final int NOTHING = -1, NAME = -2;
-        private static final int BYTES = 0, SHORTS = 1, INTS = 2, LONGS = 3, BOOLEANS = 4;
+        // between INTS and BOOLEANS stand longs, which keep all that is put in
+        private static final int BYTES = 0, SHORTS = 1, INTS = 2, BOOLEANS = 4;
 
         // NOTHING, NAME, or the sort of the row
         private int holds;
