@@ -168,7 +168,9 @@ public final class PromiseRuns {
         due("OUT -1", x.people(1, 0, 1), 0);
         due("five", x.count(0), 5);
         bytes(x, 1, 1, 1, 1, 2, 2, 2, 3, 3, 3, 4, 4, 4);
-        due("until FULL", x.people(1, 0, 4), 3);
+        due("no more than n", x.people(1, 0, 2), 2);
+        due("seven", x.count(0), 7);
+        due("until FULL", x.people(1, 0, 4), 1);
         due("when FULL", x.people(1, 0, 4), 0);
         due("eight", x.count(0), 8);
     }
@@ -383,6 +385,10 @@ public final class PromiseRuns {
         byLaw("1|0&0", 1);
         byLaw("2<3", 1);
         byLaw("3<2", 0);
+        byLaw("2<2", 0);
+        byLaw("(0|2)*7", 7);
+        byLaw("1?0|2;9", 1);
+        byLaw("1?((((((8))))));9", 8);
         byLaw("3>2", 1);
         byLaw("2>2", 0);
         byLaw("1+1=2", 1);
@@ -537,6 +543,10 @@ public final class PromiseRuns {
         due("fewest BURNT", z.allLast(10, -1), 0);
         due("fewest BURNT: LEFT", z.allLast(10, -2), 80);
         due("fewest BURNT: WEARER of 1", z.allLast(10, 1), 1);
+        NamesOnLoan v = land(5, 0, 1, 0, 5, 0);
+        told(v, "s=5?99;1");
+        due("two of three are BURNT", v.allLast(2, -1), 2);
+        due("two of three are BURNT: LEFT", v.allLast(2, -2), 98);
         NamesOnLoan w = land(9, 0, 9, 0);
         told(w, "n=2?2*(1-g)+12*g;6");
         // shared: 0 keeps 90, 1 keeps 40, one is CRACKED, 130 in all; apart: 70 and 70, both CRACKED
@@ -591,6 +601,9 @@ public final class PromiseRuns {
         due("thaws(-2)", x.thaws(-2), -1);
         due("a thought only", x.count(1), 5);
         NamesOnLoan y = land(1, 0, 1, 0);
+        y.lend(0, 1);
+        due("the first NAME alone", y.thaws(-1), 1);
+        y.thaw();
         y.lend(1, 0);
         due("its own NAME does not wait", y.thaws(1), 1);
     }
@@ -624,6 +637,10 @@ public final class PromiseRuns {
         x.lend(2, 1);
         due("of like ones the least", x.crowd(1), 1);
         due("how many then", x.crowd(0), 2);
+        x.thaw();
+        x.lend(1, 0);
+        due("the first one", x.crowd(1), 0);
+        due("the first one, how many", x.crowd(0), 2);
         due("crowd(2)", x.crowd(2), -1);
         due("crowd(-1)", x.crowd(-1), -1);
         NamesOnLoan empty = new NamesOnLoan();
@@ -715,6 +732,9 @@ public final class PromiseRuns {
         y.mend(2, 0, 1);
         due("the most of all", y.doors(9), 12);
         due("a thought only", y.count(1), 0);
+        NamesOnLoan w = land(1, 0, 2, 0);
+        told(w, "g?0;s=1");
+        due("one more is more", w.doors(1), 1);
         due("nobody", new NamesOnLoan().doors(9), -2);
     }
 
@@ -793,6 +813,15 @@ public final class PromiseRuns {
         due("now does not matter", x.lend(0, 1), 0);
         bytes(x, 0, 9, 0, 0);
         due("as before", x.wore(0, -1), 2);
+        NamesOnLoan five = land(1, 0, 1, 0, 1, 0, 1, 0, 1, 0);
+        for (int k = 0; k < 5; k++) {
+            five.mend(k, 2, 1);
+        }
+        five.row(0, 0, 0);
+        due("five, one COAT each", five.wore(0, -1), 120);
+        bytes(five, 0, 0, 0, 4, 1, 1, 3, 2, 2, 2);
+        due("five, three are told", five.wore(0, -1), 2);
+        due("five, the first of two", five.wore(0, 3), 0);
         NamesOnLoan y = land(1, 0, 1, 0, 1, 0, 1, 0, 1, 0, 1, 0);
         due("six, nothing", y.wore(0, -1), -11);
         y.row(0, 2, 3);
@@ -826,6 +855,18 @@ public final class PromiseRuns {
         due("COLD stays", x.of(0, 4), 2);
         told(x, "c");
         due("by a law", x.drawn(77, 102, 1), 100 - first - second);
+        x.person(1, 9);
+        told(x, "s=4?99;0");
+        due("one of three is BURNT", x.drawn(77, 302, -1), 3);
+        told(x, "!c*7");
+        int nulls = 0;
+        int y = 5;
+        for (int day = 0; day < 60; day++) {
+            y = y * 1103515245 + 12345;
+            nulls += (y >>> 8) % 10 == 0 ? 1 : 0;
+        }
+        due("DAYS of no COLD", x.drawn(5, 160, 0), Math.max(0, 100 - 7 * nulls));
+        due("there are some", nulls > 0 ? 1 : 0, 1);
     }
 
     private static void p26Lend() {
@@ -974,12 +1015,14 @@ public final class PromiseRuns {
         due("forty at most", x.count(3), 40);
         for (int k = 39; k >= 0; k--) {
             due("undo to " + k, x.undo(), k);
+            due("OUT behind undo to " + k, x.of(1, 1), (k + 19) % 9);
         }
         due("no more", x.undo(), -5);
         due("the oldest stay", x.of(1, 1), 1);
         due("FIRE stays", x.of(0, 5), 3);
         for (int k = 39; k >= 0; k--) {
             due("redo to " + k, x.redo(), k);
+            due("OUT behind redo to " + k, x.of(1, 1), (59 - k) % 9);
         }
         due("no more to redo", x.redo(), -5);
         due("the latest", x.of(1, 1), 5);
