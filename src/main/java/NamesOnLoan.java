@@ -13,6 +13,8 @@ public final class NamesOnLoan {
     private static final int FIRST_COATS = 4, FIRST_COLD = 2, FIRST_LEFT = 100;
     private static final int MOST_OWED_AT_ONCE = 99, MOST_DEBT = 9999;
     private static final int MOST_WINTERS = 20, COLDS = 10, SHELVES = 6;
+    // each more than five of the next can come to, LEFT of a NAME being 999 at most
+    private static final int BURNT_COST = 100000, CRACKED_COST = 10000, LEFT_COST = 1000;
 
     private final Folk folk;
     private final Deeds deeds;
@@ -207,10 +209,11 @@ public final class NamesOnLoan {
         if (folk.size() > MOST_TRIED) {
             return STATE;
         }
-        beginWays();
+        beginWays(n, null);
         int best = Ways.WORST;
-        for (int k = 0; k < ways.total(); k++) {
-            int cost = ways.fits() ? costOfWay(n) : Ways.WORST;
+        int total = ways.total();
+        for (int k = 0; k < total; k++) {
+            int cost = ways.fits() ? ways.cost() : Ways.WORST;
             if (cost < best) {
                 best = cost;
                 ways.markFirst();
@@ -223,20 +226,7 @@ public final class NamesOnLoan {
         if (what >= 0) {
             return ways.firstWearer(what);
         }
-        return what == -1 ? Ways.burntIn(best) : Ways.leftIn(best);
-    }
-
-    private int costOfWay(int n) {
-        int burnt = 0;
-        int cracked = 0;
-        int sum = 0;
-        for (int name = 0; name < folk.size(); name++) {
-            int rest = deeds.leftBy(name, ways.rateOf(name), n);
-            burnt += rest == 0 ? 1 : 0;
-            cracked += cracks(name, rest) ? 1 : 0;
-            sum += rest;
-        }
-        return Ways.cost(burnt, cracked, sum);
+        return what == -1 ? best / BURNT_COST : LEFT_COST * folk.size() - best % CRACKED_COST;
     }
 
     public int fewest(int n) {
@@ -246,10 +236,11 @@ public final class NamesOnLoan {
         if (folk.size() > MOST_TRIED) {
             return STATE;
         }
-        beginWays();
+        beginWays(n, null);
         int least = MOST_PEOPLE + 1;
-        for (int k = 0; k < ways.total(); k++) {
-            if (ways.wearers() < least && ways.fits() && noneIsBurnt(n)) {
+        int total = ways.total();
+        for (int k = 0; k < total; k++) {
+            if (ways.wearers() < least && ways.fits() && ways.cost() < BURNT_COST) {
                 least = ways.wearers();
             }
             ways.goOn();
@@ -257,13 +248,31 @@ public final class NamesOnLoan {
         return least > MOST_PEOPLE ? NOT : least;
     }
 
-    private boolean noneIsBurnt(int n) {
-        for (int name = 0; name < folk.size(); name++) {
-            if (deeds.leftBy(name, ways.rateOf(name), n) == 0) {
-                return false;
+    /**
+     * Costs are told ahead for every wearer and count, since thousands of ways ask for them:
+     * by days, or, where something is signed, by how many threes are not so.
+     */
+    private void beginWays(int n, Shelf signed) {
+        ways.begin(folk.size());
+        for (int one = 0; one < folk.size(); one++) {
+            ways.setCoats(one, folk.told(one, COATS));
+            for (int name = 0; name < folk.size(); name++) {
+                for (int many = 1; many <= folk.size(); many++) {
+                    int rate = rate(name, one, many, folk.cold());
+                    int cost = signed == null ? costAfter(name, rate, n) : threesNotSo(signed, name, one, rate);
+                    ways.setCost(name, one, many, cost);
+                }
             }
         }
-        return true;
+    }
+
+    /** A sum of these is less for the better way: fewer burnt, then fewer cracked, then more left. */
+    private int costAfter(int name, int rate, int n) {
+        int rest = deeds.leftBy(name, rate, n);
+        int cost = LEFT_COST - rest;
+        cost += cracks(name, rest) ? CRACKED_COST : 0;
+        cost += rest == 0 ? BURNT_COST : 0;
+        return cost;
     }
 
     // ---- thaw, letters, debts
@@ -415,12 +424,24 @@ public final class NamesOnLoan {
             return refusal;
         }
         Shelf signed = shelves[shelf];
-        for (int three = 0; three * 3 < signed.size(); three++) {
-            if (!isSo(signed, three * 3, false)) {
-                return three;
+        for (int place = 0; place < signed.size(); place += 3) {
+            int name = signed.number(place + 1);
+            if (!isThree(signed, place) || !isSo(signed, place, deeds.wearerOf(name), rateNow(name))) {
+                return place / 3;
             }
         }
         return NOT;
+    }
+
+    /** Whether a three is whole, of a DAY and a NAME that there are. */
+    private boolean isThree(Shelf signed, int place) {
+        return signed.hasPlaces(place, 3) && isTo99(signed.number(place)) && folk.has(signed.number(place + 1));
+    }
+
+    private boolean isSo(Shelf signed, int place, int wearer, int rate) {
+        int day = signed.number(place);
+        int name = signed.number(place + 1);
+        return signed.number(place + 2) == wearer && deeds.leftBy(name, rate, day) > 0;
     }
 
     public int wore(int shelf, int name) {
@@ -434,18 +455,29 @@ public final class NamesOnLoan {
         if (folk.size() > MOST_TRIED) {
             return STATE;
         }
-        int found = waysThatMakeSo(shelves[shelf]);
+        Shelf signed = shelves[shelf];
+        int found = areThrees(signed) ? waysThatMakeSo(signed) : 0;
         if (name == -1) {
             return found;
         }
         return found == 0 ? NOT : ways.firstWearer(name);
     }
 
+    private boolean areThrees(Shelf signed) {
+        for (int place = 0; place < signed.size(); place += 3) {
+            if (!isThree(signed, place)) {
+                return false;
+            }
+        }
+        return true;
+    }
+
     private int waysThatMakeSo(Shelf signed) {
+        beginWays(0, signed);
         int found = 0;
-        beginWays();
-        for (int k = 0; k < ways.total(); k++) {
-            if (ways.fits() && areAllSo(signed)) {
+        int total = ways.total();
+        for (int k = 0; k < total; k++) {
+            if (ways.fits() && ways.cost() == 0) {
                 if (found == 0) {
                     ways.markFirst();
                 }
@@ -456,31 +488,14 @@ public final class NamesOnLoan {
         return found;
     }
 
-    private boolean areAllSo(Shelf signed) {
+    private int threesNotSo(Shelf signed, int name, int wearer, int rate) {
+        int sum = 0;
         for (int place = 0; place < signed.size(); place += 3) {
-            if (!isSo(signed, place, true)) {
-                return false;
+            if (signed.number(place + 1) == name && !isSo(signed, place, wearer, rate)) {
+                sum++;
             }
         }
-        return true;
-    }
-
-    /** Whether a three is so, by the way that is tried or by the wearers as they are. */
-    private boolean isSo(Shelf signed, int place, boolean tried) {
-        if (!signed.hasPlaces(place, 3)) {
-            return false;
-        }
-        int day = signed.number(place);
-        int name = signed.number(place + 1);
-        if (!isTo99(day) || !folk.has(name)) {
-            return false;
-        }
-        int wearer = tried ? ways.wearerOf(name) : deeds.wearerOf(name);
-        if (signed.number(place + 2) != wearer) {
-            return false;
-        }
-        int rate = tried ? ways.rateOf(name) : rateNow(name);
-        return deeds.leftBy(name, rate, day) > 0;
+        return sum;
     }
 
     public int drawn(int seed, int nm, int name) {
@@ -763,19 +778,6 @@ public final class NamesOnLoan {
         return NOT;
     }
 
-    /** Rates are told ahead for every wearer and count, since thousands of ways ask for them. */
-    private void beginWays() {
-        ways.begin(folk.size());
-        for (int one = 0; one < folk.size(); one++) {
-            ways.setCoats(one, folk.told(one, COATS));
-            for (int name = 0; name < folk.size(); name++) {
-                for (int many = 1; many <= folk.size(); many++) {
-                    ways.setRate(name, one, many, rate(name, one, many, folk.cold()));
-                }
-            }
-        }
-    }
-
     /** 0, if a shelf holds a row of bytes. */
     private int refusalOfBytes(int shelf) {
         if (!isShelf(shelf)) {
@@ -1004,15 +1006,12 @@ public final class NamesOnLoan {
     /** All ways to wear all names, one behind the other, the first name's wearer changing last. */
     private static final class Ways {
         static final int WORST = Integer.MAX_VALUE;
-        // more than all that can be left of five names
-        private static final int LEFT_STEP = 10000;
-        private static final int CRACKED_STEP = 10;
 
         private final int[] way;
         private final int[] worn;
         private final int[] coats;
         private final int[] first;
-        private final int[] rates;
+        private final int[] costs;
         private int size;
 
         Ways() {
@@ -1020,7 +1019,7 @@ public final class NamesOnLoan {
             worn = new int[MOST_TRIED];
             coats = new int[MOST_TRIED];
             first = new int[MOST_TRIED];
-            rates = new int[MOST_TRIED * MOST_TRIED * MOST_TRIED];
+            costs = new int[MOST_TRIED * MOST_TRIED * MOST_TRIED];
             size = 0;
         }
 
@@ -1042,13 +1041,13 @@ public final class NamesOnLoan {
             }
         }
 
-        void setRate(int name, int one, int many, int rate) {
+        void setCost(int name, int one, int many, int cost) {
             if (has(name) && has(one) && has(many - 1)) {
-                rates[rateAt(name, one, many)] = rate;
+                costs[placeOf(name, one, many)] = cost;
             }
         }
 
-        private static int rateAt(int name, int one, int many) {
+        private static int placeOf(int name, int one, int many) {
             return (name * MOST_TRIED + one) * MOST_TRIED + many - 1;
         }
 
@@ -1090,12 +1089,13 @@ public final class NamesOnLoan {
             return sum;
         }
 
-        int wearerOf(int name) {
-            return has(name) ? way[name] : 0;
-        }
-
-        int rateOf(int name) {
-            return has(name) ? rates[rateAt(name, way[name], worn[way[name]])] : 0;
+        int cost() {
+            int sum = 0;
+            for (int name = 0; name < size; name++) {
+                int one = way[name];
+                sum += costs[placeOf(name, one, worn[one])];
+            }
+            return sum;
         }
 
         void markFirst() {
@@ -1104,19 +1104,6 @@ public final class NamesOnLoan {
 
         int firstWearer(int name) {
             return has(name) ? first[name] : 0;
-        }
-
-        /** One number that is less for the better way: fewer burnt, then fewer cracked, then more left. */
-        static int cost(int burnt, int cracked, int left) {
-            return (burnt * CRACKED_STEP + cracked) * LEFT_STEP + LEFT_STEP - 1 - left;
-        }
-
-        static int burntIn(int cost) {
-            return cost / (CRACKED_STEP * LEFT_STEP);
-        }
-
-        static int leftIn(int cost) {
-            return LEFT_STEP - 1 - cost % LEFT_STEP;
         }
     }
 
