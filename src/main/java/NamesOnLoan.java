@@ -920,7 +920,7 @@ public final class NamesOnLoan {
 
         /** What is left of a name, if so much is burnt on each of so many days. */
         int leftBy(int name, int rate, int manyDays) {
-            return Math.max(0, leftOf(name) - rate * manyDays);
+            return isIn(name) ? Math.max(0, left[name] - rate * manyDays) : 0;
         }
 
         int wornBy(int one) {
@@ -1343,10 +1343,12 @@ public final class NamesOnLoan {
             int height = 0;
             for (int k = 0; k < size; k++) {
                 int step = steps[k];
-                if (height < needed(step) || height >= MOST_STEPS) {
+                boolean laid = isLaid(step);
+                int needed = laid ? 0 : needed(step);
+                if (height < needed || height >= MOST_STEPS) {
                     return 0;
                 }
-                if (isLaid(step)) {
+                if (laid) {
                     pile[height] = step >= NUMBERS ? step - NUMBERS : values[step];
                     height++;
                 } else if (step == LINE_ENDS) {
@@ -1365,11 +1367,8 @@ public final class NamesOnLoan {
             return 0;
         }
 
-        /** How many values a step takes from the pile. */
+        /** How many values a step that lays down none needs on the pile. */
         private static int needed(int step) {
-            if (isLaid(step)) {
-                return 0;
-            }
             return step == LINE_ENDS || step == NOT_SO || step == LESS_THAN_NOTHING ? 1 : 2;
         }
 
@@ -1711,7 +1710,7 @@ public final class NamesOnLoan {
         }
 
         int number(int i) {
-            return (int) get(i);
+            return hasPlaces(i, 1) ? (int) cells[i] : 0;
         }
 
         void set(int i, long v) {
