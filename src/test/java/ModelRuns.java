@@ -12,10 +12,12 @@ import java.util.TreeSet;
  * own arrays and what the machine throws there, faults by a machine of states instead of a descent.
  */
 public final class ModelRuns {
+    private static final int PROMISED_CALLS = 512;
+    private static final int MOST_CALLS_AT_ONCE = 121;
     private static int wrong = 0;
 
     public static void main(String[] args) {
-        int runs = 1500;
+        int runs = 2000;
         for (int run = 0; run < runs && wrong < 20; run++) {
             oneRun(run);
         }
@@ -32,11 +34,18 @@ public final class ModelRuns {
         String text;
         long got;
         long want;
+        // of the object, since some are told as one here
+        int many = 1;
 
         Call(String text, long got, long want) {
             this.text = text;
             this.got = got;
             this.want = want;
+        }
+
+        Call of(int calls) {
+            many = calls;
+            return this;
         }
     }
 
@@ -51,7 +60,8 @@ public final class ModelRuns {
             int o = draw.nextInt(10);
             calls.add(new Call("person(" + s + ", " + o + ")", x.person(s, o), m.person(s, o)));
         }
-        for (int k = 0; k < 400; k++) {
+        int most = PROMISED_CALLS - MOST_CALLS_AT_ONCE;
+        for (int k = calls.size(); k < most; k += calls.get(calls.size() - 1).many) {
             Call call = aCall(draw, x, m);
             calls.add(call);
             if (call.got != call.want) {
@@ -147,7 +157,7 @@ public final class ModelRuns {
                         got = got * 31 + x.feed(text.charAt(k));
                         want = want * 31 + m.feed(text.charAt(k));
                     }
-                    return new Call("feed all of " + text, got * 31 + x.law(), want * 31 + m.law());
+                    return new Call("feed all of " + text, got * 31 + x.law(), want * 31 + m.law()).of(text.length() + 1);
                 }
                 return new Call("law()", x.law(), m.law());
             }
@@ -340,7 +350,7 @@ public final class ModelRuns {
             told.append(" judged, wore(").append(name).append(")");
             got = got * 1000 + x.judge(shelf);
             want = want * 1000 + m.judge(shelf);
-            return new Call(told.toString(), got * 10000 + x.wore(shelf, name), want * 10000 + m.wore(shelf, name));
+            return new Call(told.toString(), got * 10000 + x.wore(shelf, name), want * 10000 + m.wore(shelf, name)).of(n * 3 + 3);
         }
         if (which < 50) {
             long got = x.row(shelf, 0, 9);
@@ -352,7 +362,7 @@ public final class ModelRuns {
                 want = want * 31 + m.put(shelf, k, v);
                 told.append(" ").append(v);
             }
-            return new Call(told.toString(), got, want);
+            return new Call(told.toString(), got, want).of(10);
         }
         int a = someone(d, m);
         int b = someone(d, m);

@@ -1131,7 +1131,7 @@ public final class PromiseRuns {
         due("nothing yet", x.put(0, 0, 1), -11);
         for (int sort = 0; sort < 5; sort++) {
             due("60 of " + sort, x.row(0, sort, 60), 1);
-            for (int i = 0; i < 60; i++) {
+            for (int i = 0; i < 60; i += 2) {
                 due("0 at first", x.element(0, i), 0);
                 x.put(0, i, 1);
             }

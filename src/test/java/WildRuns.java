@@ -1,8 +1,11 @@
 import java.lang.management.ManagementFactory;
+import java.lang.reflect.InvocationTargetException;
 import java.lang.reflect.Method;
 import java.lang.reflect.Modifier;
+import java.util.ArrayList;
 import java.util.Arrays;
 import java.util.Comparator;
+import java.util.List;
 import java.util.Random;
 
 /** Calls with any arguments in any state: none may throw, none may make objects, refusals change nothing. */
@@ -12,14 +15,20 @@ public final class WildRuns {
         0, 1, 2, 3, 4, 5, 6, 7, 8, 9, 10, 11, 12, 13, 14, 23, 24, 25, 39, 40, 41, 49, 50, 51, 59, 60, 61, 76, 77, 78, 98, 99,
         100, 101, 119, 120, 121, 127, 128, 255, 256, 999, 1000, 1999, 2000, 2099, 2100, 9999, 10000,
         Integer.MAX_VALUE - 2, Integer.MAX_VALUE - 1, Integer.MAX_VALUE};
+    private static final int RUNS = 500;
+    // with what is read at the end fewer than 512
+    private static final int CALLS = 270;
     private static int wrong = 0;
 
     public static void main(String[] args) throws Exception {
         Method[] methods = Arrays.stream(NamesOnLoan.class.getDeclaredMethods())
             .filter(m -> Modifier.isPublic(m.getModifiers()))
             .sorted(Comparator.comparing(Method::getName)).toArray(Method[]::new);
-        for (int run = 0; run < 1200 && wrong < 10; run++) {
-            wildRun(run, methods);
+        for (int run = 0; run < RUNS && wrong < 10; run++) {
+            List<Drawn> calls = drawn(new Random(run), methods);
+            for (int part = 0; part < Whole.PARTS && wrong < 10; part++) {
+                twins(run, calls, part);
+            }
         }
         noCallMakesAnything();
         System.out.println(wrong == 0 ? "no wild call threw" : wrong + " faults");
@@ -28,10 +37,34 @@ public final class WildRuns {
         }
     }
 
-    private static void wildRun(int run, Method[] methods) throws Exception {
-        Random draw = new Random(run);
-        NamesOnLoan x = new NamesOnLoan();
-        for (int k = 0; k < 500; k++) {
+    /** A call and what it is given. */
+    private static final class Drawn {
+        private final Method method;
+        private final Object[] given;
+
+        Drawn(Method method, Object[] given) {
+            this.method = method;
+            this.given = given;
+        }
+
+        long on(NamesOnLoan x) throws Exception {
+            return ((Number) method.invoke(x, given)).longValue();
+        }
+
+        /** These answer below 0, too, when they are not refused. */
+        boolean tellsAnything() {
+            return method.getName().equals("element") || method.getName().equals("act") || method.getName().equals("law");
+        }
+
+        @Override
+        public String toString() {
+            return method.getName() + Arrays.toString(given);
+        }
+    }
+
+    private static List<Drawn> drawn(Random draw, Method[] methods) {
+        List<Drawn> calls = new ArrayList<>();
+        for (int k = 0; k < CALLS; k++) {
             Method method = methods[draw.nextInt(methods.length)];
             Class<?>[] types = method.getParameterTypes();
             Object[] given = new Object[types.length];
@@ -40,45 +73,33 @@ public final class WildRuns {
                 v = draw.nextInt(60) == 0 ? draw.nextInt() : v;
                 given[i] = types[i] == long.class ? (Object) (long) v : (Object) v;
             }
-            String before = state(x);
-            try {
-                Object got = method.invoke(x, given);
-                long answer = ((Number) got).longValue();
-                boolean refused = answer == -1 || answer == -3 || answer == -11 || answer == -12 || answer == -13 || answer == -14;
-                boolean tells = method.getName().equals("element") || method.getName().equals("act");
-                if (refused && !tells && !before.equals(state(x))) {
-                    wrong++;
-                    System.out.println("run " + run + ": " + method.getName() + Arrays.toString(given) + " answered " + answer + " and changed something");
-                }
-            } catch (java.lang.reflect.InvocationTargetException e) {
-                wrong++;
-                System.out.println("run " + run + ": " + method.getName() + Arrays.toString(given) + " threw " + e.getCause());
-            }
+            calls.add(new Drawn(method, given));
         }
+        return calls;
     }
 
-    /** All that calls tell of an object without changing it. */
-    private static String state(NamesOnLoan x) {
-        StringBuilder out = new StringBuilder();
-        for (int what = 0; what < 6; what++) {
-            out.append(x.count(what)).append(' ').append(x.led(what)).append(' ');
-        }
-        for (int one = 0; one < 8; one++) {
-            for (int what = 0; what < 14; what++) {
-                out.append(x.of(one, what)).append(' ');
+    /** An object that refused calls is as like another one, to which those calls never came. */
+    private static void twins(int run, List<Drawn> calls, int part) throws Exception {
+        NamesOnLoan x = new NamesOnLoan();
+        NamesOnLoan y = new NamesOnLoan();
+        for (Drawn call : calls) {
+            try {
+                long answer = call.on(x);
+                if ((answer >= 0 || call.tellsAnything()) && call.on(y) != answer) {
+                    wrong++;
+                    System.out.println("run " + run + ": " + call + " answers otherwise, as a call ahead of it was refused");
+                    return;
+                }
+            } catch (InvocationTargetException e) {
+                wrong++;
+                System.out.println("run " + run + ": " + call + " threw " + e.getCause());
+                return;
             }
-            out.append(x.burns(one)).append(' ').append(x.debt(one)).append(' ');
         }
-        for (int shelf = 0; shelf < 6; shelf++) {
-            out.append(x.taken(shelf, 0)).append(' ');
-            for (int i = 0; i < 60; i += 7) {
-                out.append(x.element(shelf, i)).append(' ');
-            }
+        if (!Whole.part(x, part).equals(Whole.part(y, part))) {
+            wrong++;
+            System.out.println("run " + run + ": a refused call changed part " + part);
         }
-        for (int i = 0; i < 24; i++) {
-            out.append(x.trace(i)).append(' ');
-        }
-        return out.append(x.debt(-1)).toString();
     }
 
     private static void noCallMakesAnything() {
