@@ -1005,7 +1005,8 @@ public final class NamesOnLoan {
 
     /** All ways to wear all names, one behind the other, the first name's wearer changing last. */
     private static final class Ways {
-        static final int WORST = Integer.MAX_VALUE;
+        // more than all names can cost together
+        static final int WORST = 2 * MOST_TRIED * BURNT_COST;
 
         private final int[] way;
         private final int[] worn;

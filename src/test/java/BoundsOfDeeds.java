@@ -25,6 +25,7 @@ final class BoundsOfDeeds {
         p29Whats();
         p29Counts();
         p29BurntNow();
+        p29UpTo512Calls();
         p30Days();
         p31None();
         p31WhatItKeeps();
@@ -244,6 +245,24 @@ final class BoundsOfDeeds {
         Sentences.due("none of eight yet", y.led(3), 0);
         y.pass(1);
         Sentences.due("all of eight", y.led(3), 8);
+    }
+
+    private static void p29UpTo512Calls() {
+        Sentences.of(29, "An object is used for at most 512 calls after it has been made");
+        NamesOnLoan lends = Lands.alike(2);
+        NamesOnLoan passes = Lands.alike(2);
+        NamesOnLoan thaws = Lands.alike(2);
+        NamesOnLoan mends = Lands.alike(2);
+        for (int call = 3; call < 512; call++) {
+            lends.lend(0, call % 2);
+            passes.pass(99);
+            thaws.thaw();
+            mends.mend(0, 1, call % 10);
+        }
+        Sentences.due("lendings, by the 512th call", lends.led(1), 509);
+        Sentences.due("DAYS, by the 512th call", passes.led(0), 509 * 99);
+        Sentences.due("THAWS, by the 512th call", thaws.led(2), 509);
+        Sentences.due("undo(), as the 512th call", mends.undo(), 39);
     }
 
     private static void p30Days() {

@@ -18,6 +18,10 @@ public final class LanguageRules {
         + "fewest1 thaws1 ring2 crowd1 letter3 owe2 debt1 doors1 judge1 wore2 drawn3 lend2 pass1 thaw0 led1 image0 back0 "
         + "undo0 redo0 body1 act3 trace1 keep2 row3 put3 element2 shift5 taken2 count1";
     private static final Set<String> LIBRARY = Set.of("Math", "Integer", "Long", "System");
+    // the functions that rule 4 names, and the one constant that the document's face needs
+    private static final Set<String> LISTED = Set.of("Math.max", "Math.min", "Math.abs", "Math.floorDiv", "Math.floorMod",
+        "Integer.compare", "Integer.max", "Integer.min", "Integer.bitCount", "Long.compare", "Long.max", "Long.min",
+        "Long.bitCount", "System.arraycopy", "Long.MIN_VALUE");
     private static int wrong = 0;
 
     private static void rule(boolean holds, String told) {
@@ -33,6 +37,7 @@ public final class LanguageRules {
         all.add(NamesOnLoan.class);
         all.addAll(Arrays.asList(NamesOnLoan.class.getDeclaredClasses()));
         face();
+        asWritten(source, Files.readString(Path.of("../shared/DOC.md")));
         insides(all);
         words(source, all);
         lengths(source);
@@ -68,6 +73,35 @@ public final class LanguageRules {
             }
         }
         rule(constants.equals(new TreeSet<>(Set.of("BAD-1", "NOT-2", "FULL-3", "STATE-5", "VOID-2000000000"))), "constants " + constants);
+    }
+
+    /** The constants, the constructor and every call stand as the document writes them, in its order, under its headings. */
+    private static void asWritten(String source, String document) {
+        List<String> wanted = new ArrayList<>();
+        Matcher headings = Pattern.compile("Ahead of the calls `(\\w+)`[^-]* the interface says: ---- ([^.]+)\\.").matcher(document);
+        int from = document.indexOf("```java") + "```java".length();
+        for (String line : document.substring(from, document.indexOf("```", from)).split("\n")) {
+            if (line.startsWith("    public")) {
+                wanted.add(line.contains("(") ? line.replace(");", ") {") : line);
+            }
+        }
+        int found = 0;
+        while (headings.find()) {
+            for (int k = 0; k < wanted.size(); k++) {
+                if (wanted.get(k).contains(" " + headings.group(1) + "(")) {
+                    wanted.add(k, "    // ---- " + headings.group(2));
+                    found++;
+                    break;
+                }
+            }
+        }
+        rule(found == 6 && wanted.size() == 6 + 2 + 42, "the document's face has " + wanted.size() + " lines, " + found + " headings");
+        int at = 0;
+        for (String line : wanted) {
+            int next = source.indexOf("\n" + line + "\n", at);
+            rule(next >= 0, "the source lacks, at its place: " + line.trim());
+            at = Math.max(at, next);
+        }
     }
 
     private static void insides(List<Class<?>> all) {
@@ -113,6 +147,15 @@ public final class LanguageRules {
         Matcher m = Pattern.compile("\\b([A-Z][a-z]\\w*)").matcher(bare);
         while (m.find()) {
             rule(own.contains(m.group(1)) || LIBRARY.contains(m.group(1)), "the class " + m.group(1));
+        }
+        library(bare);
+    }
+
+    private static void library(String bare) {
+        Matcher m = Pattern.compile("\\b(Math|Integer|Long|System)\\s*\\.\\s*(\\w+)").matcher(bare);
+        while (m.find()) {
+            String used = m.group(1) + "." + m.group(2);
+            rule(LISTED.contains(used), used + " is not in the library that is listed");
         }
     }
 

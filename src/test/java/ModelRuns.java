@@ -828,7 +828,11 @@ public final class ModelRuns {
         }
 
         static int worn(int[] wearers, int one) {
-            return (int) Arrays.stream(wearers).filter(w -> w == one).count();
+            int many = 0;
+            for (int wearer : wearers) {
+                many += wearer == one ? 1 : 0;
+            }
+            return many;
         }
 
         int feed(int letter) {
@@ -897,7 +901,11 @@ public final class ModelRuns {
         }
 
         static int burnt(int[] lefts) {
-            return (int) Arrays.stream(lefts).filter(l -> l == 0).count();
+            int many = 0;
+            for (int rest : lefts) {
+                many += rest == 0 ? 1 : 0;
+            }
+            return many;
         }
 
         int winter(int n, int what) {
